@@ -10,6 +10,7 @@ final class CityTest {
         door();
         about();
         taken();
+        takenFromFullCity();
         name();
         answers();
         shut();
@@ -210,6 +211,26 @@ final class CityTest {
         due("count(13)", x.count(13), 10);
     }
 
+    private static void takenFromFullCity() {
+        RunSayer x = new RunSayer();
+        for (int j = 0; j < 24; j++) {
+            x.junction(j, 0, 0);
+        }
+        for (int w = 0; w < 40; w++) {
+            x.way(0, 0, 1, 10 + w, 0);
+        }
+        for (int d = 0; d < 8; d++) {
+            x.door(39, 1 + d, 0);
+        }
+        due("count(13)", x.count(13), 72);
+        due("the last junction", x.taken(23, 6), 23);
+        due("the first way", x.taken(24, 0), 10);
+        due("the last way", x.taken(63, 0), 49);
+        due("the first door", x.taken(64, 7), 1);
+        due("the last door", x.taken(71, 7), 8);
+        due("nothing", x.taken(72, 8), -11);
+    }
+
     private static void name() {
         check.promise(8, "name");
         RunSayer x = twoJunctions();
@@ -230,6 +251,7 @@ final class CityTest {
         }
         due("a 61st", x.name(0, Cities.word("a")), RunSayer.FULL);
         due("a 61st that is no word", x.name(0, 0), RunSayer.BAD);
+        due("no name of all", x.answers(0, Cities.word("none"), 0), 0);
         due("count(4)", x.count(4), 60);
     }
 
@@ -275,6 +297,8 @@ final class CityTest {
         }
         due("a 41st", x.shut(0, 0, 1), RunSayer.FULL);
         due("a 41st that is bad", x.shut(0, 1, 1), RunSayer.BAD);
+        x.way(0, 0, 1, 9, 0);
+        due("none of all", x.wasShut(1, 1, 0), 0);
         due("count(5)", x.count(5), 40);
     }
 
@@ -292,6 +316,7 @@ final class CityTest {
         due("day 300", x.wasShut(0, 300, 12), RunSayer.BAD);
         due("known -1", x.wasShut(0, 5, -1), RunSayer.BAD);
         due("known tomorrow", x.wasShut(0, 5, 13), RunSayer.BAD);
+        due("day 0", x.wasShut(0, 0, 12), 0);
         due("day 3", x.wasShut(0, 3, 12), 0);
         due("day 4", x.wasShut(0, 4, 12), 1);
         due("day 19", x.wasShut(0, 19, 12), 1);
@@ -326,6 +351,7 @@ final class CityTest {
         due("a 41st", x.ban(0, 2, 1, 1), RunSayer.FULL);
         due("a 41st that does not follow", x.ban(0, 4, 1, 1), RunSayer.STATE);
         due("count(6)", x.count(6), 40);
+        due("with all bans", x.best(0, 1, 1, 1), 3);
         banned();
     }
 

@@ -6,9 +6,11 @@ final class ExamsTest {
     public static void main(String[] args) {
         rule();
         faults();
+        behindFault();
         marks();
         wrong();
         over();
+        overStraight();
         askRefused();
         examTold();
         appeal();
@@ -38,6 +40,19 @@ final class ExamsTest {
         due("a seventh, ahead of the fault", x.rule(), RunSayer.FULL);
         due("the tape stays", x.count(11), 7);
         due("count(10)", x.count(10), 6);
+    }
+
+    /** A rule that was begun and failed leaves nothing in the next one. */
+    private static void behindFault() {
+        RunSayer x = examined();
+        due("it fails behind two tests", Cities.rule(x, "take 7 if said>1&said>1&x"), -124);
+        due("the next one", Cities.rule(x, "take 5"), 0);
+        x.ask(0, 0, 1, 6);
+        due("it has no tests", x.examTold(0, 5), 95);
+        due("it fails behind a test", Cities.rule(x, "take 7 if said>1&x"), -117);
+        due("the next one", Cities.rule(x, "take 5 if said=1"), 1);
+        x.ask(0, 0, 1, 6);
+        due("it has one test", x.examTold(1, 5), 90);
     }
 
     private static void fault(String text, int place) {
@@ -235,6 +250,59 @@ final class ExamsTest {
         Cities.rule(z, "take 1 if wrong=1");
         z.ask(0, 0, 1, 0);
         due("18 feet said, wrong; 302 are the least that can be", z.examTold(0, 5), 99);
+    }
+
+    private static void overStraight() {
+        RunSayer x = Cities.square();
+        x.junction(30, 30, 0);
+        x.way(0, 0, 4, 40, 0);
+        x.way(0, 4, 2, 40, 0);
+        x.name(4, Cities.word("lane"));
+        x.name(5, Cities.word("tube"));
+        x.pupil(1);
+        Cities.rule(x, "take 7 if over>0");
+        Cities.rule(x, "take 1 if over=0");
+        Cities.say(x, 0, 1, 6, "leave down right lane ahead tube left ash set right");
+        x.ride(0, 0);
+        x.ask(0, 0, 1, 6);
+        due("120 feet said are the straightest, 60 the least", x.examTold(0, 5), 93);
+        x.shut(1, 0, 300);
+        x.shut(3, 0, 300);
+        x.ask(0, 0, 1, 6);
+        due("and now the least", x.examTold(1, 5), 99);
+        x.shut(0, 0, 300);
+        x.ask(0, 0, 1, 6);
+        due("no run", x.examTold(2, 5), 99);
+        x.door(0, 30, 0);
+        x.ask(0, 0, 2, 6);
+        due("one leg was said, there is no run", x.examTold(3, 5), 99);
+        oneLegOver();
+    }
+
+    private static void oneLegOver() {
+        RunSayer x = Cities.street(100);
+        x.way(0, 1, 0, 5, 0);
+        x.name(1, Cities.word("b"));
+        x.pupil(1);
+        Cities.rule(x, "take 7 if over>0");
+        Cities.rule(x, "take 1 if over=0");
+        x.ask(0, 0, 1, 6);
+        due("98 feet on one leg; 1 and 5 and 1 are the least", x.examTold(0, 5), 93);
+        x.ban(1, 3, 24, 127);
+        x.ask(0, 0, 1, 6);
+        due("and now one leg is the least", x.examTold(1, 5), 99);
+        x.door(0, 50, 0);
+        Cities.say(x, 2, 1, 6, "leave down left b left a set right");
+        x.ban(0, 2, 24, 127);
+        due("round, and it is banned", Cities.say(x, 1, 2, 6, "leave up left b left a set left"), -1015);
+        RunSayer y = Cities.street(40, 10);
+        y.way(0, 1, 0, 30, 1);
+        y.door(0, 30, 0);
+        y.pupil(1);
+        Cities.rule(y, "take 7 if over=91");
+        // back from 30 to 1: 29 feet down in one leg
+        y.ask(0, 2, 0, 6);
+        due("one leg is straight", y.examTold(0, 5), 100);
     }
 
     private static void askRefused() {

@@ -24,7 +24,7 @@ final class ModelTest {
     private final Deque<String> last = new ArrayDeque<>();
     private final long seed;
     private final int spread, feetOf;
-    private int calls;
+    private int calls, limit = CALLS;
     private boolean failed;
 
     private ModelTest(long seed) {
@@ -51,7 +51,11 @@ final class ModelTest {
         int wrong = 0;
         for (long seed = first; seed < first + runs && wrong < 3; seed++) {
             ModelTest test = new ModelTest(seed);
-            test.play();
+            if (seed % 100 == 0) {
+                test.playFull();
+            } else {
+                test.play();
+            }
             wrong += test.failed ? 1 : 0;
         }
         if (args.length > 3) {
@@ -72,7 +76,7 @@ final class ModelTest {
     }
 
     private long call(String name, long... args) throws Exception {
-        if (calls >= CALLS || failed) {
+        if (calls >= limit || failed) {
             return 0;
         }
         calls++;
@@ -206,8 +210,62 @@ final class ModelTest {
             tellDoor();
         }
         int flavour = random.nextInt(6);
-        for (int i = 0; i < CALLS && calls < CALLS && !failed; i++) {
+        for (int i = 0; i < limit && calls < limit && !failed; i++) {
             step(flavour);
+        }
+    }
+
+    /** Every table is filled to its end first; two junctions have all ways, so that each turn looks back. */
+    private void playFull() throws Exception {
+        limit = 2000;
+        for (int i = 0; i < 26; i++) {
+            call("junction", i, 50, i / 20);
+        }
+        for (int i = 0; i < 41; i++) {
+            call("way", 0, 0, 1, 20 + random.nextInt(3), 0);
+        }
+        for (int i = 0; i < 61; i++) {
+            call("name", i % 40, 'a' + i % 40 % 26);
+        }
+        for (int i = 0; i < 9; i++) {
+            call("door", i < 5 ? i : 20, 3 + random.nextInt(9), i % 2);
+        }
+        for (int r = 0; r < 11; r++) {
+            StringBuilder text = new StringBuilder("leave up");
+            int last = 0;
+            for (int i = 1; i <= 20; i++) {
+                int way = i == 20 ? 20 : (last + 1 + random.nextInt(18)) % 20;
+                text.append(" left ").append((char) ('a' + way));
+                last = way;
+            }
+            feed(text + (random.nextBoolean() ? " set left" : " set right"));
+            call("say", 0, 5 + random.nextInt(3), 6);
+            call("wipe");
+        }
+        for (int i = 0; i < 41; i++) {
+            call("shut", 30 + random.nextInt(10), random.nextInt(3), 3 + random.nextInt(297));
+            int e = random.nextInt(60);
+            call("ban", e, follower(e), 24, 1 + random.nextInt(127));
+        }
+        for (int p = 0; p < 5; p++) {
+            call("pupil", 1 + random.nextInt(30));
+            for (int r = 0; r < 10; r++) {
+                call("ride", p, r);
+            }
+            call("knows", p, 0);
+            call("plan", p, 1 + 2 + 4 + 8, 4, 60);
+        }
+        for (int i = 0; i < 7; i++) {
+            feed("take " + i + " if wrong=" + i % 2 + "&over>0&turns>2");
+            call("rule");
+            call("wipe");
+        }
+        for (int i = 0; i < 25; i++) {
+            call("ask", i % 4, i % 8, (i + 1 + i / 8) % 8, 6);
+            call("examTold", i, 5);
+        }
+        for (int i = 0; i < 300 && !failed; i++) {
+            step(i % 6);
         }
     }
 

@@ -11,6 +11,7 @@ final class PupilsTest {
         holds();
         knows();
         wouldSay();
+        wouldSayStraight();
         wouldSayOpen();
         plan();
         planRows();
@@ -173,6 +174,27 @@ final class PupilsTest {
         due("it is shut, but he would say it", x.cost(1), 10);
     }
 
+    /** The straightest run that he holds, though there is a shorter one. */
+    private static void wouldSayStraight() {
+        RunSayer x = Cities.square();
+        x.junction(30, 30, 0);
+        x.way(1, 0, 4, 40, 0);
+        x.way(4, 4, 2, 40, 0);
+        x.name(4, Cities.word("lane"));
+        x.name(5, Cities.word("tube"));
+        x.pupil(1);
+        Cities.say(x, 0, 1, 6, FAR);
+        Cities.say(x, 0, 1, 6, "leave down right lane ahead tube left ash set right");
+        x.ride(0, 0);
+        due("FAR", x.wouldSay(0, 0, 1, 6), 3);
+        x.ride(0, 1);
+        due("across", x.wouldSay(0, 0, 1, 6), 4);
+        due("its twists", x.cost(0), 0);
+        due("its feet", x.cost(1), 10 + 60 + 44 + 30);
+        due("in hour 7", x.wouldSay(0, 0, 1, 7), 4);
+        due("its feet", x.cost(1), 10 + 60 + 88 + 30);
+    }
+
     private static void wouldSayOpen() {
         RunSayer x = new RunSayer();
         x.junction(0, 0, 0);
@@ -190,6 +212,12 @@ final class PupilsTest {
         x.ride(0, 0);
         due("in hour 21", x.wouldSay(0, 0, 1, 21), 2);
         due("in hour 22 the alley is closed", x.wouldSay(0, 0, 1, 22), 0);
+        x.pupil(1);
+        check.promise(34, "parting");
+        due("in hour 22 the alley is closed for both", x.parting(3, 22), RunSayer.STATE);
+        due("in hour 6 it parts them", x.parting(3, 6), 1);
+        due("in hour 4 it does not", x.parting(3, 4), RunSayer.STATE);
+        check.promise(31, "wouldSay");
         due("against one", x.wouldSay(0, 0, 2, 6), 0);
         due("with it", x.wouldSay(0, 2, 0, 6), 1);
     }

@@ -7,6 +7,8 @@ final class RunsTest {
         oneLeg();
         likeRuns();
         longest();
+        otherStrings();
+        reachedAgain();
         bestOn();
         legAndCost();
         prove();
@@ -52,9 +54,9 @@ final class RunsTest {
         x.way(1, 0, 4, 40, 0);
         x.way(4, 4, 2, 40, 0);
         due("along the string", x.best(0, 1, 6, 0), 4);
-        found(x, "along the string", 0, 10 + 60 + 44 + 10 + 20, 1, 8, 10, 4);
+        found(x, "along the string", 0, 10 + 60 + 44 + 30, 1, 8, 10, 4);
         due("along the string in hour 7", x.best(0, 1, 7, 0), 4);
-        found(x, "along the string in hour 7", 0, 10 + 60 + 88 + 10 + 20, 1, 8, 10, 4);
+        found(x, "along the string in hour 7", 0, 10 + 60 + 88 + 30, 1, 8, 10, 4);
         due("by feet it is not the best", x.best(0, 1, 7, 1), 3);
         found(x, "by feet", 1600, 60, 1, 7, 5);
         x.shut(3, 0, 5);
@@ -117,6 +119,10 @@ final class RunsTest {
         found(x, "round", 0, 1 + 3 + 1, 0, 2, 0);
         x.shut(0, 0, 300);
         due("shut", x.best(0, 1, 0, 0), 0);
+        RunSayer z = Cities.street(9);
+        z.door(0, 2, 0);
+        due("one foot", z.best(0, 2, 0, 0), 1);
+        found(z, "one foot", 0, 1, 0);
         RunSayer y = Cities.street(10);
         y.way(0, 1, 0, 2, 1);
         y.ban(0, 2, 24, 127);
@@ -183,6 +189,59 @@ final class RunsTest {
         found(w, "the least next leg", 0, 5 + 7 + 5, 0, 2, 6);
     }
 
+    /** Twists are off the string of the doors that are asked for now; of like feet the least twists count. */
+    private static void otherStrings() {
+        RunSayer x = new RunSayer();
+        int[][] places = {{0, 0}, {20, 0}, {20, 20}, {0, 20}, {10, 1}};
+        for (int[] p : places) {
+            x.junction(p[0], p[1], 0);
+        }
+        x.way(0, 0, 1, 10, 0);
+        x.way(0, 1, 2, 10, 0);
+        x.way(0, 3, 2, 10, 0);
+        x.way(0, 0, 3, 10, 0);
+        x.way(0, 0, 4, 2, 0);
+        x.way(0, 4, 1, 2, 0);
+        x.door(4, 1, 0);
+        x.door(1, 5, 0);
+        x.door(3, 5, 0);
+        x.door(2, 5, 0);
+        // from 0, 0 to 20, 0: junction 4 is 20 off, all others of row 0 none
+        due("from 0 to 1, straightest", x.best(0, 1, 0, 0), 3);
+        found(x, "from 0 to 1, straightest", 0, 1 + 10 + 5, 9, 0, 2);
+        due("from 0 to 1, shortest", x.best(0, 1, 0, 1), 3);
+        found(x, "from 0 to 1, shortest", 20, 1 + 2 + 5, 8, 10, 2);
+        // from 0, 0 to 0, 20: junction 1 and 2 are 400 off, junction 4 is 200 off
+        due("from 2 to 3", x.best(2, 3, 0, 0), 2);
+        found(x, "from 2 to 3", 0, 5 + 5, 6, 4);
+        due("from 1 to 2, straightest", x.best(1, 2, 0, 0), 3);
+        // from 20, 0 to 0, 0: junction 2 is 400 off, junction 3, too, junction 1 and 0 none
+        found(x, "from 1 to 2, straightest", 0, 5 + 10 + 5, 3, 1, 6);
+        due("from 2 to 1, straightest", x.best(2, 1, 0, 0), 3);
+        found(x, "from 2 to 1, straightest", 0, 5 + 10 + 5, 7, 0, 2);
+        RunSayer y = new RunSayer();
+        for (int[] p : places) {
+            y.junction(p[0], p[1], 0);
+        }
+        y.way(0, 0, 3, 10, 0);
+        y.way(0, 3, 2, 10, 0);
+        y.way(0, 0, 1, 10, 0);
+        y.way(0, 1, 2, 10, 0);
+        y.way(0, 2, 4, 5, 0);
+        y.junction(0, 1, 0);
+        y.way(0, 0, 5, 9, 0);
+        y.door(5, 4, 0);
+        y.door(4, 1, 0);
+        // s is 0, 0 and g is 20, 20: both ways round are 400 off; with g at 10, 1 they are not alike
+        due("two ways round, alike", y.best(0, 1, 0, 1), 4);
+        found(y, "two ways round, alike", 400, 4 + 20 + 1, 11, 0, 2, 8);
+        y.way(0, 4, 2, 5, 0);
+        y.door(6, 4, 0);
+        due("two ways round, alike in feet", y.best(0, 2, 0, 1), 4);
+        // the cross of 10, 1 with 0, 20 is 200, with 20, 0 it is 20, with 20, 20 it is 180
+        found(y, "the one with less twists", 20 + 180, 4 + 20 + 1, 11, 4, 6, 13);
+    }
+
     /** All ways stand in one row, to and fro, dear and long: the most twists and feet. */
     private static void longest() {
         RunSayer x = new RunSayer();
@@ -202,6 +261,33 @@ final class RunsTest {
         due("closed in hour 3", x.best(0, 1, 3, 0), 0);
     }
 
+    /** A leg that is reached early, but dear, is reached again for less. */
+    private static void reachedAgain() {
+        RunSayer x = new RunSayer();
+        for (int j = 0; j < 6; j++) {
+            x.junction(10 * j, 0, 0);
+        }
+        x.way(0, 0, 1, 10, 0);
+        x.way(0, 1, 2, 100, 0);
+        x.way(0, 1, 3, 10, 0);
+        x.way(0, 3, 2, 50, 0);
+        x.way(0, 3, 4, 10, 0);
+        x.way(0, 4, 2, 10, 0);
+        x.way(0, 2, 5, 10, 0);
+        x.door(0, 5, 0);
+        x.door(6, 5, 0);
+        due("three by three", x.best(0, 1, 0, 1), 5);
+        found(x, "three by three", 0, 5 + 30 + 5, 0, 4, 8, 10, 12);
+        due("and back", x.best(1, 0, 0, 1), 5);
+        found(x, "and back", 0, 5 + 30 + 5, 13, 11, 9, 5, 1);
+        x.ban(8, 10, 24, 127);
+        due("one is banned", x.best(0, 1, 0, 1), 4);
+        found(x, "one is banned", 0, 5 + 60 + 5, 0, 4, 6, 12);
+        x.shut(3, 0, 300);
+        due("one is shut", x.best(0, 1, 0, 1), 3);
+        found(x, "one is shut", 0, 5 + 100 + 5, 0, 2, 12);
+    }
+
     private static void bestOn() {
         check.promise(17, "bestOn");
         RunSayer x = Cities.street(10, 10);
@@ -217,6 +303,7 @@ final class RunsTest {
         for (int days : bad) {
             due("days " + days, x.bestOn(0, 1, days, 0, 0), RunSayer.BAD);
         }
+        due("day 0", x.bestOn(0, 1, 0, 0, 0), 2);
         due("day 1", x.bestOn(0, 1, 1004, 0, 0), 2);
         due("day 2", x.bestOn(0, 1, 2004, 0, 0), 0);
         found(x, "day 2", -1, -1);
@@ -226,6 +313,21 @@ final class RunsTest {
         due("day 5", x.bestOn(0, 1, 5004, 0, 1), 2);
         due("day 299", x.bestOn(0, 1, 299004, 0, 0), 2);
         due("today", x.best(0, 1, 0, 0), 0);
+        RunSayer y = Cities.street(10, 10);
+        y.junction(5, 5, 0);
+        y.way(0, 0, 3, 2, 0);
+        y.way(0, 3, 1, 2, 0);
+        y.door(0, 5, 0);
+        due("by twists", y.bestOn(2, 1, 0, 0, 0), 2);
+        found(y, "by twists", 0, 5 + 9, 0, 2);
+        RunSayer z = Cities.square();
+        z.junction(30, 30, 0);
+        z.way(1, 0, 4, 40, 0);
+        z.way(4, 4, 2, 40, 0);
+        due("by twists in hour 6", z.bestOn(0, 1, 0, 6, 0), 4);
+        found(z, "by twists in hour 6", 0, 10 + 60 + 44 + 30, 1, 8, 10, 4);
+        due("by feet in hour 7", z.bestOn(0, 1, 0, 7, 1), 3);
+        found(z, "by feet in hour 7", 1600, 60, 1, 7, 5);
     }
 
     private static void legAndCost() {
@@ -369,6 +471,7 @@ final class RunsTest {
         due("up 1 and 0", x.bound(3, 0, 0, 3), 1);
         x.shut(0, 0, 1);
         due("neither leg is drivable", x.bound(3, 0, 0, 3), RunSayer.NONE);
+        boundOnLaterWay();
         RunSayer y = Cities.street(10, 10);
         y.way(0, 1, 0, 5, 0);
         y.ban(0, 2, 24, 127);
@@ -376,6 +479,27 @@ final class RunsTest {
         due("leg 0 leads but into leg 4, of price 5 and 0", y.bound(0, 1, 0, 3), -100);
         write(y, 3, 5, 0, -1, 0, 0, 0);
         due("a banned turn limits nothing", y.bound(0, 1, 0, 3), 1);
+    }
+
+    private static void boundOnLaterWay() {
+        RunSayer x = Cities.street(10, 10, 10);
+        x.door(1, 6, 0);
+        x.door(1, 7, 0);
+        x.door(1, 7, 1);
+        write(x, 2, -1, -1, -1, -1, -1, -1);
+        due("one foot ahead", x.bound(2, 3, 0, 2), -100);
+        write(x, 2, 7, -1, 40, 50, -1, 3);
+        due("one foot ahead", x.bound(2, 3, 0, 2), 1);
+        due("one foot back", x.bound(3, 2, 0, 2), -100);
+        write(x, 2, 6, -1, 40, 50, -1, 3);
+        due("one foot back", x.bound(3, 2, 0, 2), 1);
+        due("side by side: nothing between them", x.bound(3, 4, 0, 2), 3 + 40);
+        write(x, 2, 6, -1, -1, -1, -1, 3);
+        due("side by side: nothing between them", x.bound(3, 4, 0, 2), RunSayer.NONE);
+        write(x, 2, 6, -1, 0, -1, -1, 3);
+        due("up 3 and 0", x.bound(3, 4, 0, 2), 3);
+        write(x, 2, 6, -1, -1, 0, -1, 3);
+        due("down 7 and 0", x.bound(3, 4, 0, 2), 7);
     }
 
     private static void boundRefused() {

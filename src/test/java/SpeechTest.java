@@ -190,6 +190,30 @@ final class SpeechTest {
         due("as long as the tape", Cities.say(x, 0, 1, 0, twenty + " set     lef"), -100 - 157);
         due("18 turns ahead", Cities.say(x, 0, 1, 0, "leave up " + turn.repeat(17) + "set left"), -1000 - 170 - 6);
         longestSaid();
+        twentyLinks();
+    }
+
+    /** To and fro between two junctions: to look back is to turn left. */
+    private static void twentyLinks() {
+        RunSayer x = new RunSayer();
+        x.junction(0, 0, 0);
+        x.junction(9, 0, 0);
+        StringBuilder text = new StringBuilder("leave up");
+        for (int w = 0; w < 21; w++) {
+            x.way(0, 0, 1, 10, 0);
+            x.name(w, 'a' + w);
+            text.append(w == 0 ? "" : " left " + (char) ('a' + w));
+        }
+        x.door(0, 3, 0);
+        x.door(20, 3, 0);
+        due("twenty turns", Cities.say(x, 0, 1, 0, text + " set left"), 0);
+        due("leg 1", x.run(0, 1), 3);
+        due("leg 20", x.run(0, 20), 40);
+        x.pupil(1);
+        due("twenty links", x.ride(0, 0), 20);
+        due("the first one", x.holds(0, 0, 3, 0), 1);
+        due("the last one", x.holds(0, 39, 40, 0), 1);
+        due("he would say it", x.wouldSay(0, 0, 1, 0), 21);
     }
 
     /** Around a square twenty turns left, each with the same name. */
@@ -231,6 +255,9 @@ final class SpeechTest {
                 "leave up left oak left ash left fir left elm left oak left ash set right"), 4);
         x.door(0, 20, 0);
         x.door(0, 10, 1);
+        x.door(0, 11, 0);
+        due("one foot ahead", Cities.say(x, 0, 4, 0, "leave up set right"), -1007);
+        due("one foot behind", Cities.say(x, 4, 0, 0, "leave up set right"), -1006);
         due("one leg, up", Cities.say(x, 0, 2, 0, "leave up set left"), 5);
         due("one leg, down, behind", Cities.say(x, 0, 2, 0, "leave down set right"), -1006);
         due("one leg, down", Cities.say(x, 2, 0, 0, "leave down set right"), 6);
@@ -282,8 +309,23 @@ final class SpeechTest {
         due("4 comes ahead of 5", Cities.say(x, 0, 1, 18, "leave up ahead on set left"), -1014);
         due("the second step", Cities.say(x, 0, 1, 18, "leave up left up left toll set left"), -1022);
         due("step 1 comes ahead of step 2", Cities.say(x, 0, 1, 18, "leave up ahead up left x set left"), -1013);
+        intoLegNought();
         x.shut(0, 0, 1);
         due("1: shut", Cities.say(x, 0, 1, 18, "leave up ahead x set left"), -1001);
+    }
+
+    /** Leg 0 is a leg like all others. */
+    private static void intoLegNought() {
+        RunSayer x = Cities.square();
+        String text = "leave down right oak right elm set right";
+        x.ban(3, 1, 608, 127);
+        due("into leg 1, banned", Cities.say(x, 1, 0, 6, text), -1025);
+        text = "leave up left fir left elm set left";
+        due("into leg 0", Cities.say(x, 1, 0, 6, text), 0);
+        x.ban(6, 0, 608, 127);
+        due("into leg 0, banned", Cities.say(x, 1, 0, 6, text), -1025);
+        x.shut(0, 0, 300);
+        due("into leg 0, shut", Cities.say(x, 1, 0, 6, text), -1024);
     }
 
     private static void today() {
