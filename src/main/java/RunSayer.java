@@ -883,33 +883,31 @@ public final class RunSayer {
             return cross == 0 && dot(e, f) > 0 ? AHEAD : LEFT;
         }
 
+        /** Clockwise from the look back along e: exits of its first half come ahead of all others. */
         private int exitsAhead(int e, int f) {
             int at = endOf(e), ahead = 0;
+            boolean early = isInFirstHalf(e ^ 1, f);
             for (int k = 0; k < outCount[at]; k++) {
                 int g = outLeg(at, k);
-                if ((g >> 1) != (e >> 1) && g != f && comesAhead(g, f, e)) {
+                if (g == f || (g >> 1) == (e >> 1)) {
+                    continue;
+                }
+                boolean isEarlier = isInFirstHalf(e ^ 1, g);
+                if (isEarlier == early) {
+                    int cross = cross(g, f);
+                    isEarlier = cross < 0 || cross == 0 && g < f;
+                }
+                if (isEarlier) {
                     ahead++;
                 }
             }
             return ahead;
         }
 
-        private boolean comesAhead(int g, int f, int e) {
-            int sectorOfG = sector(e ^ 1, g), sectorOfF = sector(e ^ 1, f);
-            if (sectorOfG != sectorOfF) {
-                return sectorOfG < sectorOfF;
-            }
-            int cross = cross(g, f);
-            return cross < 0 || cross == 0 && g < f;
-        }
-
-        /** Clockwise from the leg back: 0 its own look, 1 the first half, 2 the look ahead, 3 the other half. */
-        private int sector(int back, int g) {
+        /** Whether g looks as the leg back does, or less than half a turn clockwise from it. */
+        private boolean isInFirstHalf(int back, int g) {
             int cross = cross(back, g);
-            if (cross == 0) {
-                return dot(back, g) > 0 ? 0 : 2;
-            }
-            return cross < 0 ? 1 : 3;
+            return cross < 0 || cross == 0 && dot(back, g) > 0;
         }
 
         private int cross(int e, int f) {
@@ -925,7 +923,7 @@ public final class RunSayer {
         }
 
         int feetFromStart(int e, int d) {
-            return feetToEnd(e ^ 1, d);
+            return (e & 1) == 0 ? doorFeet[d] : wayFeet[e >> 1] - doorFeet[d];
         }
 
         /** How far door b lies ahead of door a on leg e; 0 or less: it does not. Both are on its way. */
