@@ -13,6 +13,7 @@ final class PupilsTest {
         wouldSay();
         wouldSayStraight();
         wouldSayOpen();
+        wouldSayLongest();
         plan();
         planRows();
         planRefused();
@@ -220,6 +221,42 @@ final class PupilsTest {
         check.promise(31, "wouldSay");
         due("against one", x.wouldSay(0, 0, 2, 6), 0);
         due("with it", x.wouldSay(0, 2, 0, 6), 1);
+    }
+
+    /** To and fro over 40 ways between two junctions: all 78 legs of 39 ways lie between two doors side by side. */
+    private static void wouldSayLongest() {
+        RunSayer x = new RunSayer();
+        x.junction(0, 0, 0);
+        x.junction(9, 0, 0);
+        String[] names = new String[40];
+        for (int w = 0; w < 40; w++) {
+            names[w] = w < 26 ? "" + (char) ('a' + w) : "z" + (char) ('a' + w - 26);
+            x.way(0, 0, 1, 10, 0);
+            x.name(w, Cities.word(names[w]));
+        }
+        int[] ends = {0, 16, 32, 48, 64, 79}, doors = {0, 1, 2, 3, 4, 5}, ways = {0, 16, 32, 9, 25, 0};
+        for (int w : ways) {
+            x.door(w, 5, 0);
+        }
+        x.pupil(30);
+        for (int r = 0; r < 5; r++) {
+            StringBuilder text = new StringBuilder("leave up");
+            for (int at = ends[r] + 1; at <= ends[r + 1]; at++) {
+                text.append(" left ").append(names[at == 79 ? 0 : at < 40 ? at : at - 39]);
+            }
+            due("part " + r, Cities.say(x, doors[r], doors[r + 1], 0, text + (r == 4 ? " set right" : " set left")), r);
+            due("its links", x.ride(0, r), ends[r + 1]);
+        }
+        due("all of them", x.wouldSay(0, 0, 5, 0), 80);
+        due("its feet", x.cost(1), 5 + 78 * 10 + 5);
+        for (int at = 1; at < 79; at++) {
+            due("leg " + at, x.leg(at), 2 * (at < 40 ? at : at - 39) + at % 2);
+        }
+        due("the first leg", x.leg(0), 0);
+        due("the last leg", x.leg(79), 1);
+        due("behind it", x.leg(80), RunSayer.NONE);
+        x.ask(0, 0, 5, 0);
+        due("in an exam", x.examTold(0, 6), 80);
     }
 
     private static void plan() {
