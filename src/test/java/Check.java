@@ -14,12 +14,27 @@ final class Check {
         promise = "promise " + number + " (" + call + ")";
     }
 
+    /** The calls that come now test this sentence of the document's terms. */
+    void sentence(String words) {
+        promise = "\"" + words + "\"";
+    }
+
     void due(String call, long got, long want) {
         calls++;
         if (got != want) {
             wrong++;
             System.out.println(test + ", " + promise + ": " + call + " answered " + got + ", due is " + want);
         }
+    }
+
+    /** What was found last: these legs and no more, with these costs. */
+    void found(RunSayer x, String what, long twists, long feet, int... legs) {
+        for (int i = 0; i < legs.length; i++) {
+            due(what + ": leg(" + i + ")", x.leg(i), legs[i]);
+        }
+        due(what + ": behind the last leg", x.leg(legs.length), RunSayer.NONE);
+        due(what + ": cost(0)", x.cost(0), twists);
+        due(what + ": cost(1)", x.cost(1), feet);
     }
 
     void isTrue(String what, boolean holds) {

@@ -63,4 +63,34 @@ final class Cities {
         x.door(2, 30, 1);
         return x;
     }
+
+    /** A small square around which one turns left, each way called a; both doors are on way 0, door 1 ahead. */
+    static RunSayer around() {
+        RunSayer x = new RunSayer();
+        x.junction(0, 0, 0);
+        x.junction(9, 0, 0);
+        x.junction(9, 9, 0);
+        x.junction(0, 9, 0);
+        for (int w = 0; w < 4; w++) {
+            x.way(0, w, (w + 1) % 4, 10, 0);
+            x.name(w, word("a"));
+        }
+        x.door(0, 3, 0);
+        x.door(0, 5, 0);
+        return x;
+    }
+
+    /**
+     * The square on day 3: pupil 0 of two, who keep for 10 days, has ridden run 0, of 100 feet and 2 turns, from
+     * door 0 to 1, where 60 feet are the least.
+     */
+    static RunSayer ridden() {
+        RunSayer x = square();
+        say(x, 0, 1, 6, "leave up left oak left ash set right");
+        x.pupil(10);
+        x.pupil(10);
+        x.pass(3);
+        x.ride(0, 0);
+        return x;
+    }
 }

@@ -1,7 +1,6 @@
 /** Promises 35 to 39: rules, exams, appeals, counts. */
 final class ExamsTest {
     private static final Check check = new Check("ExamsTest");
-    private static final String NEAR = "leave up left oak left ash set right";
 
     public static void main(String[] args) {
         rule();
@@ -117,14 +116,8 @@ final class ExamsTest {
         fault("take \u00b11", 5);
     }
 
-    /** The square's door 2 is on oak; a pupil with a run of 100 feet and 2 turns, where 60 feet are the least. */
     private static RunSayer examined(String... rules) {
-        RunSayer x = Cities.square();
-        Cities.say(x, 0, 1, 6, NEAR);
-        x.pupil(10);
-        x.pupil(10);
-        x.pass(3);
-        x.ride(0, 0);
+        RunSayer x = Cities.ridden();
         for (String rule : rules) {
             check.isTrue(rule, Cities.rule(x, rule) >= 0);
         }

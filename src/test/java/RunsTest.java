@@ -21,15 +21,6 @@ final class RunsTest {
         check.due(call, got, want);
     }
 
-    private static void found(RunSayer x, String what, long twists, long feet, int... legs) {
-        for (int i = 0; i < legs.length; i++) {
-            due(what + ": leg(" + i + ")", x.leg(i), legs[i]);
-        }
-        due(what + ": behind the last leg", x.leg(legs.length), RunSayer.NONE);
-        due(what + ": cost(0)", x.cost(0), twists);
-        due(what + ": cost(1)", x.cost(1), feet);
-    }
-
     private static void best() {
         check.promise(16, "best");
         RunSayer x = Cities.square();
@@ -42,32 +33,32 @@ final class RunsTest {
         due("hour -1", x.best(0, 1, -1, 0), RunSayer.BAD);
         due("by 2", x.best(0, 1, 0, 2), RunSayer.BAD);
         due("by -1", x.best(0, 1, 0, -1), RunSayer.BAD);
-        found(x, "nothing was found yet", 0, 0);
+        check.found(x, "nothing was found yet", 0, 0);
         // off the string from 10, 10 to 50, 50 by 1600 each: the ends of elm and of fir
         due("straightest: up elm, oak, ash, or down elm, fir, ash", x.best(0, 1, 0, 0), 3);
-        found(x, "down: its first end is on the string", 1600, 60, 1, 7, 5);
+        check.found(x, "down: its first end is on the string", 1600, 60, 1, 7, 5);
         due("shortest", x.best(0, 1, 0, 1), 3);
-        found(x, "shortest", 1600, 60, 1, 7, 5);
+        check.found(x, "shortest", 1600, 60, 1, 7, 5);
         due("back", x.best(1, 0, 23, 0), 3);
-        found(x, "back", 1600, 60, 4, 6, 0);
+        check.found(x, "back", 1600, 60, 4, 6, 0);
         x.junction(30, 30, 0);
         x.way(1, 0, 4, 40, 0);
         x.way(4, 4, 2, 40, 0);
         due("along the string", x.best(0, 1, 6, 0), 4);
-        found(x, "along the string", 0, 10 + 60 + 44 + 30, 1, 8, 10, 4);
+        check.found(x, "along the string", 0, 10 + 60 + 44 + 30, 1, 8, 10, 4);
         due("along the string in hour 7", x.best(0, 1, 7, 0), 4);
-        found(x, "along the string in hour 7", 0, 10 + 60 + 88 + 30, 1, 8, 10, 4);
+        check.found(x, "along the string in hour 7", 0, 10 + 60 + 88 + 30, 1, 8, 10, 4);
         due("by feet it is not the best", x.best(0, 1, 7, 1), 3);
-        found(x, "by feet", 1600, 60, 1, 7, 5);
+        check.found(x, "by feet", 1600, 60, 1, 7, 5);
         x.shut(3, 0, 5);
         due("fir is shut", x.best(0, 1, 7, 1), 3);
-        found(x, "fir is shut", 1600, 30 + 40 + 30, 0, 2, 4);
+        check.found(x, "fir is shut", 1600, 30 + 40 + 30, 0, 2, 4);
         x.ban(0, 2, 24, 127);
         due("elm to oak is banned", x.best(0, 1, 7, 1), 4);
-        found(x, "elm to oak is banned", 0, 188, 1, 8, 10, 4);
+        check.found(x, "elm to oak is banned", 0, 188, 1, 8, 10, 4);
         x.ban(1, 8, 24, 127);
         due("nothing is left", x.best(0, 1, 7, 1), 0);
-        found(x, "nothing is left", -1, -1);
+        check.found(x, "nothing is left", -1, -1);
         due("back there is a run", x.best(1, 0, 7, 1), 3);
         x.ban(5, 3, 24, 127);
         x.ban(5, 11, 24, 127);
@@ -79,7 +70,7 @@ final class RunsTest {
         RunSayer x = Cities.street(10, 10);
         x.way(0, 2, 0, 5, 1);
         due("up", x.best(0, 1, 0, 1), 2);
-        found(x, "up", 0, 9 + 9, 0, 2);
+        check.found(x, "up", 0, 9 + 9, 0, 2);
         x.shut(0, 0, 1);
         due("the first way is shut", x.best(0, 1, 0, 1), 0);
         x.pass(1);
@@ -98,37 +89,37 @@ final class RunsTest {
         due("back it is not", y.best(1, 0, 0, 0), 2);
         y.way(3, 0, 1, 10, 0);
         due("round by the alley in hour 5", y.best(0, 1, 5, 0), 3);
-        found(y, "round by the alley", 0, 5 + 30 + 5, 0, 4, 2);
+        check.found(y, "round by the alley", 0, 5 + 30 + 5, 0, 4, 2);
         due("the alley is not open in hour 22", y.best(0, 1, 22, 0), 0);
         due("the alley costs more in hour 8", y.best(0, 1, 8, 0), 3);
-        found(y, "the alley in hour 8", 0, 5 + 40 + 5, 0, 4, 2);
+        check.found(y, "the alley in hour 8", 0, 5 + 40 + 5, 0, 4, 2);
     }
 
     private static void oneLeg() {
         RunSayer x = Cities.street(10);
         x.door(0, 9, 1);
         due("ahead", x.best(0, 1, 0, 0), 1);
-        found(x, "ahead", 0, 8, 0);
+        check.found(x, "ahead", 0, 8, 0);
         due("back", x.best(1, 0, 0, 1), 1);
-        found(x, "back", 0, 8, 1);
+        check.found(x, "back", 0, 8, 1);
         due("side by side: neither lies ahead", x.best(1, 2, 0, 0), 0);
         x.way(0, 1, 0, 3, 0);
         due("side by side: once round", x.best(1, 2, 0, 0), 3);
-        found(x, "once round: the leg comes again", 0, 1 + 3 + 9, 0, 2, 0);
+        check.found(x, "once round: the leg comes again", 0, 1 + 3 + 9, 0, 2, 0);
         due("round is shorter than back, but twists are alike", x.best(1, 0, 0, 0), 3);
-        found(x, "round", 0, 1 + 3 + 1, 0, 2, 0);
+        check.found(x, "round", 0, 1 + 3 + 1, 0, 2, 0);
         x.shut(0, 0, 300);
         due("shut", x.best(0, 1, 0, 0), 0);
         RunSayer z = Cities.street(9);
         z.door(0, 2, 0);
         due("one foot", z.best(0, 2, 0, 0), 1);
-        found(z, "one foot", 0, 1, 0);
+        check.found(z, "one foot", 0, 1, 0);
         RunSayer y = Cities.street(10);
         y.way(0, 1, 0, 2, 1);
         y.ban(0, 2, 24, 127);
         due("one leg has no turn", y.best(0, 1, 0, 0), 1);
         due("down the leg, not round", y.best(1, 0, 0, 0), 1);
-        found(y, "down the leg", 0, 8, 1);
+        check.found(y, "down the leg", 0, 8, 1);
     }
 
     /** Of like ones: the least first leg, then one leg, then the least next one, then the end. */
@@ -142,10 +133,10 @@ final class RunsTest {
         x.door(0, 5, 0);
         x.door(1, 5, 0);
         due("up or down", x.best(0, 1, 0, 0), 2);
-        found(x, "up, then up", 0, 10, 0, 2);
+        check.found(x, "up, then up", 0, 10, 0, 2);
         x.ban(0, 2, 24, 127);
         due("down is left", x.best(0, 1, 0, 0), 2);
-        found(x, "down, then down", 0, 10, 1, 3);
+        check.found(x, "down, then down", 0, 10, 1, 3);
         RunSayer y = new RunSayer();
         y.junction(0, 0, 0);
         y.junction(1, 0, 0);
@@ -162,7 +153,7 @@ final class RunsTest {
         due("two ways back alike in twists: the shorter one", y.cost(1), 6 + 4 + 1);
         due("by leg 7", y.leg(1), 7);
         due("round: first leg 0 or 1", y.best(1, 2, 0, 1), 2);
-        found(y, "leg 0 up, leg 5 down", 0, 1 + 3, 0, 5);
+        check.found(y, "leg 0 up, leg 5 down", 0, 1 + 3, 0, 5);
         RunSayer z = new RunSayer();
         z.junction(0, 0, 0);
         z.junction(1, 0, 0);
@@ -171,9 +162,9 @@ final class RunsTest {
         z.door(0, 12, 0);
         z.door(0, 1, 0);
         due("up and round is as good as down", z.best(0, 1, 0, 1), 3);
-        found(z, "the least first leg", 0, 11, 0, 3, 0);
+        check.found(z, "the least first leg", 0, 11, 0, 3, 0);
         due("back: up is one leg", z.best(1, 0, 0, 1), 1);
-        found(z, "one leg of like ones", 0, 11, 0);
+        check.found(z, "one leg of like ones", 0, 11, 0);
         RunSayer w = new RunSayer();
         w.junction(0, 0, 0);
         w.junction(1, 0, 0);
@@ -186,7 +177,7 @@ final class RunsTest {
         w.door(3, 5, 0);
         w.ban(1, 7, 24, 127);
         due("two ways on alike", w.best(0, 1, 0, 0), 3);
-        found(w, "the least next leg", 0, 5 + 7 + 5, 0, 2, 6);
+        check.found(w, "the least next leg", 0, 5 + 7 + 5, 0, 2, 6);
     }
 
     /** Twists are off the string of the doors that are asked for now; of like feet the least twists count. */
@@ -208,17 +199,17 @@ final class RunsTest {
         x.door(2, 5, 0);
         // from 0, 0 to 20, 0: junction 4 is 20 off, all others of row 0 none
         due("from 0 to 1, straightest", x.best(0, 1, 0, 0), 3);
-        found(x, "from 0 to 1, straightest", 0, 1 + 10 + 5, 9, 0, 2);
+        check.found(x, "from 0 to 1, straightest", 0, 1 + 10 + 5, 9, 0, 2);
         due("from 0 to 1, shortest", x.best(0, 1, 0, 1), 3);
-        found(x, "from 0 to 1, shortest", 20, 1 + 2 + 5, 8, 10, 2);
+        check.found(x, "from 0 to 1, shortest", 20, 1 + 2 + 5, 8, 10, 2);
         // from 0, 0 to 0, 20: junction 1 and 2 are 400 off, junction 4 is 200 off
         due("from 2 to 3", x.best(2, 3, 0, 0), 2);
-        found(x, "from 2 to 3", 0, 5 + 5, 6, 4);
+        check.found(x, "from 2 to 3", 0, 5 + 5, 6, 4);
         due("from 1 to 2, straightest", x.best(1, 2, 0, 0), 3);
         // from 20, 0 to 0, 0: junction 2 is 400 off, junction 3, too, junction 1 and 0 none
-        found(x, "from 1 to 2, straightest", 0, 5 + 10 + 5, 3, 1, 6);
+        check.found(x, "from 1 to 2, straightest", 0, 5 + 10 + 5, 3, 1, 6);
         due("from 2 to 1, straightest", x.best(2, 1, 0, 0), 3);
-        found(x, "from 2 to 1, straightest", 0, 5 + 10 + 5, 7, 0, 2);
+        check.found(x, "from 2 to 1, straightest", 0, 5 + 10 + 5, 7, 0, 2);
         RunSayer y = new RunSayer();
         for (int[] p : places) {
             y.junction(p[0], p[1], 0);
@@ -234,12 +225,12 @@ final class RunsTest {
         y.door(4, 1, 0);
         // s is 0, 0 and g is 20, 20: both ways round are 400 off; with g at 10, 1 they are not alike
         due("two ways round, alike", y.best(0, 1, 0, 1), 4);
-        found(y, "two ways round, alike", 400, 4 + 20 + 1, 11, 0, 2, 8);
+        check.found(y, "two ways round, alike", 400, 4 + 20 + 1, 11, 0, 2, 8);
         y.way(0, 4, 2, 5, 0);
         y.door(6, 4, 0);
         due("two ways round, alike in feet", y.best(0, 2, 0, 1), 4);
         // the cross of 10, 1 with 0, 20 is 200, with 20, 0 it is 20, with 20, 20 it is 180
-        found(y, "the one with less twists", 20 + 180, 4 + 20 + 1, 11, 4, 6, 13);
+        check.found(y, "the one with less twists", 20 + 180, 4 + 20 + 1, 11, 4, 6, 13);
     }
 
     /** All ways stand in one row, to and fro, dear and long: the most twists and feet. */
@@ -277,15 +268,15 @@ final class RunsTest {
         x.door(0, 5, 0);
         x.door(6, 5, 0);
         due("three by three", x.best(0, 1, 0, 1), 5);
-        found(x, "three by three", 0, 5 + 30 + 5, 0, 4, 8, 10, 12);
+        check.found(x, "three by three", 0, 5 + 30 + 5, 0, 4, 8, 10, 12);
         due("and back", x.best(1, 0, 0, 1), 5);
-        found(x, "and back", 0, 5 + 30 + 5, 13, 11, 9, 5, 1);
+        check.found(x, "and back", 0, 5 + 30 + 5, 13, 11, 9, 5, 1);
         x.ban(8, 10, 24, 127);
         due("one is banned", x.best(0, 1, 0, 1), 4);
-        found(x, "one is banned", 0, 5 + 60 + 5, 0, 4, 6, 12);
+        check.found(x, "one is banned", 0, 5 + 60 + 5, 0, 4, 6, 12);
         x.shut(3, 0, 300);
         due("one is shut", x.best(0, 1, 0, 1), 3);
-        found(x, "one is shut", 0, 5 + 100 + 5, 0, 2, 12);
+        check.found(x, "one is shut", 0, 5 + 100 + 5, 0, 2, 12);
     }
 
     private static void bestOn() {
@@ -306,10 +297,10 @@ final class RunsTest {
         due("day 0", x.bestOn(0, 1, 0, 0, 0), 2);
         due("day 1", x.bestOn(0, 1, 1004, 0, 0), 2);
         due("day 2", x.bestOn(0, 1, 2004, 0, 0), 0);
-        found(x, "day 2", -1, -1);
+        check.found(x, "day 2", -1, -1);
         due("day 4", x.bestOn(0, 1, 4003, 0, 1), 0);
         due("day 4 as was known on day 2", x.bestOn(0, 1, 4002, 0, 1), 2);
-        found(x, "day 4 as was known on day 2", 0, 18, 0, 2);
+        check.found(x, "day 4 as was known on day 2", 0, 18, 0, 2);
         due("day 5", x.bestOn(0, 1, 5004, 0, 1), 2);
         due("day 299", x.bestOn(0, 1, 299004, 0, 0), 2);
         due("today", x.best(0, 1, 0, 0), 0);
@@ -319,15 +310,15 @@ final class RunsTest {
         y.way(0, 3, 1, 2, 0);
         y.door(0, 5, 0);
         due("by twists", y.bestOn(2, 1, 0, 0, 0), 2);
-        found(y, "by twists", 0, 5 + 9, 0, 2);
+        check.found(y, "by twists", 0, 5 + 9, 0, 2);
         RunSayer z = Cities.square();
         z.junction(30, 30, 0);
         z.way(1, 0, 4, 40, 0);
         z.way(4, 4, 2, 40, 0);
         due("by twists in hour 6", z.bestOn(0, 1, 0, 6, 0), 4);
-        found(z, "by twists in hour 6", 0, 10 + 60 + 44 + 30, 1, 8, 10, 4);
+        check.found(z, "by twists in hour 6", 0, 10 + 60 + 44 + 30, 1, 8, 10, 4);
         due("by feet in hour 7", z.bestOn(0, 1, 0, 7, 1), 3);
-        found(z, "by feet in hour 7", 1600, 60, 1, 7, 5);
+        check.found(z, "by feet in hour 7", 1600, 60, 1, 7, 5);
     }
 
     private static void legAndCost() {

@@ -218,17 +218,7 @@ final class SpeechTest {
 
     /** Around a square twenty turns left, each with the same name. */
     private static void longestSaid() {
-        RunSayer x = new RunSayer();
-        x.junction(0, 0, 0);
-        x.junction(9, 0, 0);
-        x.junction(9, 9, 0);
-        x.junction(0, 9, 0);
-        for (int w = 0; w < 4; w++) {
-            x.way(0, w, (w + 1) % 4, 10, 0);
-            x.name(w, Cities.word("a"));
-        }
-        x.door(0, 3, 0);
-        x.door(0, 5, 0);
+        RunSayer x = Cities.around();
         due("five times around", Cities.say(x, 0, 1, 0, "leave up" + " left a".repeat(20) + " set left"), 0);
         due("its legs", x.run(0, -1), 21);
         due("leg 19", x.run(0, 19), 6);
