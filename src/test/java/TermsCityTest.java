@@ -255,6 +255,19 @@ final class TermsCityTest {
         due("39 look alike: the first of them", x.turn(0, 3), 3);
         due("39 look alike: the last of them", x.turn(0, 79), 41);
         due("from the last one: the last of the others", x.turn(78, 77), 41);
+        // one step apart, so that two looks alike are as short as can be
+        RunSayer y = new RunSayer();
+        y.junction(50, 50, 1);
+        y.junction(51, 50, 0);
+        y.junction(50, 49, 0);
+        y.junction(49, 50, 0);
+        y.way(0, 1, 0, 2, 0);
+        y.way(0, 0, 2, 2, 0);
+        y.way(0, 0, 3, 2, 0);
+        y.way(0, 0, 1, 2, 0);
+        due("back to where it came from", y.turn(0, 6), 3);
+        due("then south", y.turn(0, 2), 4);
+        due("then west", y.turn(0, 4), 5);
     }
 
     private static void doors() {

@@ -13,9 +13,11 @@ final class TermsRunsTest {
         leastLeg();
         endsOrGoesOn();
         comesAgain();
+        dearOnes();
         rightProof();
         rightProofOfGoal();
         mayBeTurned();
+        proofOfAllWays();
         bound();
         boundBetween();
         tape();
@@ -133,6 +135,14 @@ final class TermsRunsTest {
         y.ban(1, 2, 24, 127);
         due("a of both ways is one place: the string has no length", y.best(0, 1, 0, 0), 3);
         check.found(y, "nothing is off it", 0, 5 + 10 + 5, 0, 4, 3);
+        RunSayer z = new RunSayer();
+        places(z, 99, 99, 0, 0, 99, 0, 0, 99);
+        z.way(0, 1, 0, 10, 0);
+        z.way(0, 2, 0, 10, 0);
+        z.door(0, 5, 0);
+        z.door(1, 5, 0);
+        due("junction 0 is as far off as can be", z.best(0, 1, 0, 0), 2);
+        check.found(z, "99 times 99", 99 * 99, 5 + 5, 0, 3);
     }
 
     /** From way 0 into way 1, straight by the ways 2 or round by 3 and 4, whose junction is so far off. */
@@ -242,6 +252,34 @@ final class TermsRunsTest {
         due("no other turn leads to it", x.best(0, 2, 0, 0), 0);
     }
 
+    /** The dear ones come first and last, so that no order in which legs are looked at is the right one by chance. */
+    private static void dearOnes() {
+        check.sentence("the least FEET");
+        for (int turned = 0; turned < 2; turned++) {
+            RunSayer x = new RunSayer();
+            places(x, 0, 0, 10, 0, 20, 0, 30, 0, 40, 0, 50, 0, 60, 0);
+            int[][] ways = {{0, 1, 10}, {1, 2, 400}, {1, 3, 10}, {3, 2, 200}, {3, 4, 10}, {4, 2, 100}, {4, 5, 10}, {5, 2, 10}, {2, 6, 10}};
+            int[] number = new int[ways.length];
+            for (int i = 0; i < ways.length; i++) {
+                int w = turned == 0 ? i : ways.length - 1 - i;
+                number[w] = x.way(0, ways[w][0], ways[w][1], ways[w][2], 0);
+            }
+            x.door(number[0], 5, 0);
+            x.door(number[8], 5, 0);
+            due("six legs", x.best(0, 1, 0, 1), 6);
+            check.found(x, "by the cheap ones", 0, 5 + 40 + 5, 2 * number[0], 2 * number[2], 2 * number[4], 2 * number[6],
+                    2 * number[7], 2 * number[8]);
+            due("and back", x.best(1, 0, 0, 1), 6);
+            due("and back", x.cost(1), 50);
+            due("by twists", x.best(0, 1, 0, 0), 6);
+            due("by twists", x.cost(1), 50);
+            due("proof", x.prove(0, 1, 0), 18);
+            due("from the first way's end", x.read(0, 2 * number[0]), 45);
+            due("by the dear ones", x.read(0, 2 * number[1]), 5);
+            due("bound", x.bound(0, 1, 0, 0), 50);
+        }
+    }
+
     private static void numbers(RunSayer x, int... numbers) {
         x.sheet(0, 2, numbers.length);
         for (int e = 0; e < numbers.length; e++) {
@@ -322,6 +360,39 @@ final class TermsRunsTest {
         due("e itself need not be drivable", y.bound(0, 1, 0, 0), -100);
         numbers(y, 9, -1, -1, -1);
         due("but it bounds nothing then", y.bound(0, 1, 0, 0), NONE);
+    }
+
+    private static void proofOfAllWays() {
+        check.sentence("A PROOF for two DOORS is a row of numbers, one for each leg");
+        RunSayer x = new RunSayer();
+        for (int j = 0; j < 24; j++) {
+            x.junction(4 * j, 0, 0);
+        }
+        for (int w = 0; w < 40; w++) {
+            x.way(0, w < 23 ? w : 22, w < 23 ? w + 1 : 23, 10, 0);
+        }
+        x.door(0, 5, 0);
+        x.door(22, 5, 0);
+        due("its size", x.prove(0, 1, 0), 80);
+        for (int e = 0; e < 46; e += 2) {
+            due("number of leg " + e, x.read(0, e), e == 44 ? 15 : 5 + 10 * (21 - e / 2));
+        }
+        for (int e = 46; e < 80; e += 2) {
+            due("number of leg " + e, x.read(0, e), 5);
+            due("number of leg " + (e + 1), x.read(0, e + 1), 5);
+        }
+        due("behind it", x.cell(0, 80, 1), -12);
+        due("it is right", x.bound(0, 1, 0, 0), 5 + 215);
+        due("leg 79 has one more", x.cell(0, 79, 6), 1);
+        due("it is wrong with it", x.bound(0, 1, 0, 0), -179);
+        due("leg 79 has -1", x.cell(0, 79, -1), 1);
+        due("it is wrong with it", x.bound(0, 1, 0, 0), -179);
+        due("leg 79 has -2", x.cell(0, 79, -2), 1);
+        due("it is wrong with it", x.bound(0, 1, 0, 0), -179);
+        due("one less", x.sheet(0, 2, 79), 1);
+        due("its size", x.bound(0, 1, 0, 0), -12);
+        due("one more", x.sheet(0, 2, 81), 1);
+        due("its size", x.bound(0, 1, 0, 0), -12);
     }
 
     private static void bound() {

@@ -6,8 +6,10 @@ final class TermsSchoolTest {
     public static void main(String[] args) {
         pupils();
         links();
+        allLinks();
         held();
         wouldSay();
+        asksAgain();
         ridesDays();
         ridesSet();
         ridesHeld();
@@ -68,6 +70,41 @@ final class TermsSchoolTest {
         due("not for three", x.knows(0, 5), 0);
         due("the link of the last turn", x.holds(0, 6, 0, 4), 1);
         due("no link that was not ridden", x.holds(0, 1, 7, 2), 0);
+    }
+
+    /** Ten runs of twenty turns to and fro over 26 ways, where run r goes on by r + 1 ways each time. */
+    private static void allLinks() {
+        check.sentence("SAID RUNS 10 at most, up to 20 times a turn: 200 LINKS");
+        RunSayer x = new RunSayer();
+        x.junction(0, 0, 0);
+        x.junction(9, 0, 0);
+        for (int w = 0; w < 26; w++) {
+            x.way(0, 0, 1, 10, 0);
+            x.name(w, 'a' + w);
+        }
+        x.door(0, 5, 0);
+        x.door(25, 5, 0);
+        x.pupil(1);
+        for (int r = 0; r < 10; r++) {
+            StringBuilder text = new StringBuilder("leave up");
+            for (int i = 1; i < 20; i++) {
+                text.append(" left ").append((char) ('a' + i * (r + 1) % 26));
+            }
+            due("run " + r, Cities.say(x, 0, 1, 0, text + " left z set left"), r);
+            due("its links are others", x.ride(0, r), 20 * (r + 1));
+        }
+        due("all are held tomorrow", x.knows(0, 1), 200);
+        due("none on the day behind it", x.knows(0, 2), 0);
+        due("the last one", x.holds(0, 2 * (190 % 26) + 1, 50, 0), 1);
+        due("for day 3: run 0 twice, runs 1 and 2 on days 2 and 3", x.plan(0, 15, 4, 3), 60);
+        int[] row = {0, 0, 1, 2};
+        for (int d = 0; d < 4; d++) {
+            due("day " + d, x.planned(d), row[d]);
+        }
+        due("for day 5: run 0, and run 1 on day 3", x.plan(0, 15, 4, 5), 40);
+        due("day 3", x.planned(3), 1);
+        due("he would say the straightest of all that he holds", x.wouldSay(0, 0, 1, 0), 3);
+        due("its feet", x.cost(1), 5 + 10 + 5);
     }
 
     private static void held() {
@@ -131,6 +168,17 @@ final class TermsSchoolTest {
             due("OPEN counts in hour " + hours[h], y.wouldSay(0, 0, 1, hours[h]), says[h]);
             due("ONE counts", y.wouldSay(0, 1, 0, hours[h]), 0);
         }
+    }
+
+    /** What one call held or banned does not stand in the next one's way, as many as there are. */
+    private static void asksAgain() {
+        RunSayer x = Cities.ridden();
+        x.ban(1, 7, 24, 127);
+        for (int i = 0; i < 80; i++) {
+            due("pupil 0", x.wouldSay(0, 0, 1, 6), 3);
+            due("its feet: fir is banned", x.best(0, 1, 6, 1) + x.cost(1), 103);
+        }
+        due("pupil 1", x.wouldSay(1, 0, 1, 6), 0);
     }
 
     /** The square with two runs of two links each, and one of four; pupil 0 keeps for a day. */
@@ -344,6 +392,7 @@ final class TermsSchoolTest {
         ruled("take 1 if " + test + " & " + test, 15);
         ruled("take 1 if &" + test, 10);
         ruled("take 1 if " + test + test, 15);
+        ruled("take 1 if " + test + "&" + test + "&" + test + test, 27);
     }
 
     private static int marked(RunSayer x, int p, int hour, String... rules) {
