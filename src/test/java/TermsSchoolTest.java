@@ -103,8 +103,10 @@ final class TermsSchoolTest {
         }
         due("for day 5: run 0, and run 1 on day 3", x.plan(0, 15, 4, 5), 40);
         due("day 3", x.planned(3), 1);
-        due("he would say the straightest of all that he holds", x.wouldSay(0, 0, 1, 0), 3);
-        due("its feet", x.cost(1), 5 + 10 + 5);
+        for (int i = 0; i < 3; i++) {
+            due("he would say the straightest of all that he holds", x.wouldSay(0, 0, 1, 0), 3);
+            due("its feet", x.cost(1), 5 + 10 + 5);
+        }
     }
 
     private static void held() {
