@@ -107,6 +107,11 @@ final class TermsSchoolTest {
             due("he would say the straightest of all that he holds", x.wouldSay(0, 0, 1, 0), 3);
             due("its feet", x.cost(1), 5 + 10 + 5);
         }
+        due("a door ahead of the last link", x.door(190 % 26, 1, 0), 2);
+        for (int i = 0; i < 2; i++) {
+            due("it is the 200th, and counts as all others do", x.wouldSay(0, 2, 1, 0), 2);
+            due("its feet", x.cost(1), 1 + 5);
+        }
     }
 
     private static void held() {
