@@ -138,6 +138,7 @@ final class LanguageTest {
             check.isTrue(c + " has " + fields + " fields", fields <= 20);
             for (Method m : c.getDeclaredMethods()) {
                 check.isTrue(m + ": seven parameters at most", m.getParameterCount() <= 7);
+                check.isTrue(m + " has a name of its own", c == RunSayer.class || !FACE.matches("(?s)(.*\n)?" + m.getName() + "[ \n].*"));
             }
             if (c != RunSayer.class) {
                 check.isTrue(c + " is static", Modifier.isStatic(c.getModifiers()));
